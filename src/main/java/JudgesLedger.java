@@ -914,7 +914,6 @@ public final class JudgesLedger {
         int add(int n) {
             int o = size;
             throwsAt[o] = n;
-            timesTold[o] = 0;
             size++;
             return o;
         }

@@ -57,6 +57,7 @@ public final class PromisesTest {
         deduct();
         remark();
         save();
+        savedStatesMoveUp();
         momentOfSave();
         back();
         release();
@@ -207,6 +208,18 @@ public final class PromisesTest {
         holds("SPREAD of one at the other's", 8, -1, 0, true);
         holds("BUDGET at a", 10, 1, 0, false);
         holds("BUDGET above a", 10, 0, 0, true);
+
+        JudgesLedger five = show(0, 5, 60);
+        five.rule(2, 8, 0);
+        for (int e = 58; e < 60; e++) {
+            for (int j = 0; j < 5; j++) {
+                five.begin(j, e);
+                five.points(e == 58 ? -3 : 3);
+            }
+            for (int j = 4; j >= 0; j--) {
+                due("SPREAD: all the same, of its own marks", five.end(), WELL);
+            }
+        }
 
         JudgesLedger x = show(0, 2, 2);
         x.rule(0, 3, 2);
@@ -382,9 +395,28 @@ public final class PromisesTest {
         x.points(5);
         due("12: back to the new one", x.back(3), 16);
         due("12: its state", x.mark(0, 0), 5);
+        due("12: one that moved up keeps its state", x.back(15), 15);
+        due("12: the state of 15", x.mark(0, 0), 0);
+        x.points(8);
+        due("12: the first again", x.save(0), WELL);
+        due("12: it is the latest now", x.scoring(0, 4 + 14), 0);
+        due("12: the second is the first", x.scoring(0, 4), 1);
         x.begin(0, 0);
         due("12: of the innermost alone", x.scoring(0, 2), 0);
         due("12: STATE there", x.back(3), STATE);
+    }
+
+    private static void savedStatesMoveUp() {
+        JudgesLedger x = scoring();
+        for (int name = 1; name <= 4; name++) {
+            x.points(1);
+            x.save(name);
+        }
+        x.save(1);
+        due("12: back to 3, that moved up", x.back(3), 2);
+        due("12: the state of 3", x.mark(0, 0), 3);
+        due("12: back to 2, that moved up", x.back(2), 1);
+        due("12: the state of 2", x.mark(0, 0), 2);
     }
 
     private static void momentOfSave() {
@@ -694,6 +726,18 @@ public final class PromisesTest {
         totalDue(3, 9, 2, 3, 4, 1, 100);
         totalDue(3, 0, -2, -3, 100);
 
+        for (int schedule = 0; schedule < 4; schedule++) {
+            JudgesLedger five = show(schedule, 5, 60);
+            int[] want = {60, 12, 12, 36};
+            for (int j = 0; j < 5; j++) {
+                give(five, j, 58, 14 - j);
+                give(five, 4 - j, 59, 14 - j);
+            }
+            give(five, 0, 57, 60);
+            due("20: its own marks alone", five.told(58, 1), want[schedule]);
+            due("20: those of the last entry", five.told(59, 1), want[schedule]);
+        }
+
         JudgesLedger x = show(1, 2, 1);
         x.begin(0, 0);
         x.points(5);
@@ -730,6 +774,24 @@ public final class PromisesTest {
         }
         due("20: no prize while open", x.told(3, 6), 0);
 
+        JudgesLedger full = show(0, 5, 60);
+        full.prizes(0, 7, 0, 0);
+        for (int j = 0; j < 5; j++) {
+            give(full, j, 58, 2);
+            give(full, j, 59, j == 0 ? 10 : 0);
+            give(full, j, 57, j == 0 ? 10 : 0);
+        }
+        full.close(0);
+        due("20: more judges", full.told(58, 4), 1);
+        due("20: sharers at once, no rank asked ahead", full.told(59, 5), 2);
+        due("20: rank of the last", full.told(59, 4), 2);
+        due("22: by number", full.place(0, 1), 57);
+        due("22: by number", full.place(0, 2), 59);
+        due("22: those with nothing", full.place(0, 3), 0);
+        due("22: the last place", full.place(0, 59), 56);
+        due("22: no more", full.place(0, 60), NONE);
+        due("24: one is given", full.about(0, 5), 0);
+
         JudgesLedger y = show(0, 2, 2);
         y.begin(0, 0);
         y.points(-5);
@@ -754,6 +816,20 @@ public final class PromisesTest {
             due("20: prize of " + e, x.told(e, 6), prize[e]);
         }
         due("24: what the cut leaves", x.about(0, 5), 2);
+
+        JudgesLedger first = show(0, 1, 3);
+        first.prizes(0, 9, 0, 0);
+        give(first, 0, 2, 1);
+        first.close(0);
+        due("24: left, asked first", first.about(0, 5), 0);
+        first.uphold(0);
+        first.close(0);
+        due("20: a prize, no rank asked ahead", first.told(2, 6), 3);
+        due("20: three share", first.told(0, 6), 3);
+
+        JudgesLedger fresh = show(0, 1, 2);
+        give(fresh, 0, 1, 1);
+        due("20: sharers, asked first", fresh.told(1, 5), 1);
 
         JudgesLedger y = show(0, 1, 2);
         y.prizes(0, 11, 6, 4);
