@@ -84,14 +84,40 @@ public final class LanguageTest {
     private static void nestedClasses() {
         Class<?>[] nested = JudgesLedger.class.getDeclaredClasses();
         must(nested.length < 12, "at most some twelve classes");
+        sizes(JudgesLedger.class);
         for (Class<?> c : nested) {
             must(Modifier.isStatic(c.getModifiers()), c + " is static");
             must(!Modifier.isPublic(c.getModifiers()), c + " is not public");
-            must(c.getDeclaredFields().length <= 20, c + " has at most some twenty fields");
-            for (Method m : c.getDeclaredMethods()) {
-                must(m.getParameterCount() <= 7, m + " takes at most seven parameters");
+            sizes(c);
+        }
+    }
+
+    private static void sizes(Class<?> c) {
+        int fields = 0;
+        for (Field f : c.getDeclaredFields()) {
+            fields += Modifier.isStatic(f.getModifiers()) ? 0 : 1;
+        }
+        must(fields <= 20, c + " has at most some twenty fields");
+        for (Method m : c.getDeclaredMethods()) {
+            must(m.getParameterCount() <= 7, m + " takes at most seven parameters");
+        }
+    }
+
+    /** A method's lines stand between its head and the brace with the head's indent. */
+    private static void methodsAreShort(String code) {
+        String end = null;
+        int lines = 0;
+        for (String line : code.split("\n")) {
+            lines++;
+            if (line.matches(" {4}( {4})?[^ ].*\\) \\{") && end == null) {
+                end = line.substring(0, line.indexOf(line.trim())) + "}";
+                lines = 0;
+            } else if (line.equals(end)) {
+                must(lines <= 60, "a method of at most some sixty lines, not " + lines);
+                end = null;
             }
         }
+        must(end == null, "every method has an end");
     }
 
     private static void source() throws IOException {
@@ -100,6 +126,7 @@ public final class LanguageTest {
         for (String word : WORDS_RULED_OUT) {
             must(!Pattern.compile("\\b" + word + "\\b").matcher(code).find(), "no '" + word + "' in the code");
         }
+        methodsAreShort(code);
         must(!code.contains("->") && !code.contains("::"), "no lambda, no method reference");
         must(text.chars().allMatch(ch -> ch < 256), "characters 0 to 255 alone");
         for (String line : code.split("\n")) {

@@ -18,7 +18,7 @@ final class Twins {
         runs.add("end() digest() end() digest() 6*end() count(6) count(7) count(8) count(9) undo() digest()");
         runs.add(out + "begin(0,0) end() begin(0,0) end() begin(0,0) end() count(7) count(9) undo() digest()");
         runs.add("points(0) points(6000) points(-6000) save(3) save(3) end() count(7) count(8) depth() digest()");
-        runs.add(out + "begin(0,0) points(0) points(101) points(-101) points(6000) save(3) end() count(7) depth() digest()");
+        runs.add(out + "begin(0,0) points(0) points(101) points(-101) points(6000) save(3) end() count(7) digest()");
         runs.add("deduct(1) remark(0) remark(7) digest()");
         runs.add(out + "uphold(0) uphold(1) digest() undo() digest() about(0,4) about(1,4)");
         runs.add(out + "close(0) close(1) close(2) about(0,5) about(1,5) about(2,5) told(0,6) told(1,6) told(2,6)");
@@ -26,10 +26,11 @@ final class Twins {
             runs.add("back(" + name + ") digest() count(5) release(" + name + ") digest()");
             runs.add("drop() back(" + name + ") digest() count(5)");
         }
-        String[] thrown = {"rule(0,2,-1)", "rule(0,3,-1)", "rule(0,5,MIN)", "rule(0,6,MAX)", "rule(0,8,-1)", "rule(0,10,-1)"};
-        for (String rule : thrown) {
-            runs.add("clearRules() " + rule + " 2*points(5) digest() depth() count(7) count(8) scoring(0,2) scoring(0,3)");
-            runs.add("drop() clearRules() " + rule + " 2*points(5) digest() depth() count(7) count(8) scoring(0,2)");
+        String[] thatHold = {"2,-1", "3,-1", "5,MIN", "6,MAX", "8,-1", "10,-1"};
+        for (String rule : thatHold) {
+            String thrown = "clearRules() rule(0," + rule + ") 2*points(5) digest() depth() count(7) count(8) scoring(0,2)";
+            runs.add(thrown);
+            runs.add("drop() " + thrown);
         }
         return runs;
     }
