@@ -661,6 +661,7 @@ public final class JudgesLedger {
         final int[] judge = new int[MOST_EVENTS];
         final int[] entry = new int[MOST_EVENTS];
         final int[] number = new int[MOST_EVENTS];
+        /** Never of a row behind the EVENTS: what is cut off is first made not to count. */
         final boolean[] counting = new boolean[MOST_EVENTS];
         int events = 0;
         final int[] offs = new int[MOST_ENTRIES];
@@ -682,7 +683,6 @@ public final class JudgesLedger {
             judge[i] = j;
             entry[i] = e;
             number[i] = n;
-            counting[i] = false;
             events++;
             setCounting(i, true);
         }

@@ -26,7 +26,12 @@ public final class BoundsTest {
     private static final String WITHIN = ACTED + "begin(0,0) save(2) points(3) save(5) guard(1,5) guard(4,2)"
             + " guard(0,9) begin(1,2) points(2) save(0) deduct(4) save(7) guard(2,0) guard(6,7) ";
 
+    /** The order in which every call tells its refusals. */
+    private static final String[] REFUSALS = {"UNKNOWN", "OUTSIDE", "STATE", "FULL"};
+
     private static final Set<Integer> promises = new TreeSet<>();
+    /** Calls and refusals that were seen, such as "entry FULL". */
+    private static final Set<String> refused = new TreeSet<>();
     private static int promise = 0;
     private static int sentences = 0;
     private static int answers = 0;
@@ -79,6 +84,7 @@ public final class BoundsTest {
                 continue;
             }
             refusals++;
+            refused.add(call.name() + " " + REFUSALS[(int) (JudgesLedger.UNKNOWN - call.due())]);
             List<Calls.Call> with = new ArrayList<>(granted);
             with.add(call);
             String difference = Twins.difference(with, granted);
@@ -134,10 +140,25 @@ public final class BoundsTest {
         for (int n = 1; n <= PROMISES; n++) {
             must(promises.contains(n), "promise " + n, "has no test");
         }
+        readmeTellsTheRefusals();
         System.out.println(sentences + " sentences, " + answers + " answers asked, " + refusals + " refusals, "
                 + wrong + " not as due");
         if (wrong != 0) {
             System.exit(1);
+        }
+    }
+
+    private static void readmeTellsTheRefusals() {
+        for (String[] row : Readme.table("Call")) {
+            String name = Readme.nameOf(row);
+            StringBuilder due = new StringBuilder(name).append(':');
+            for (String refusal : REFUSALS) {
+                due.append(refused.contains(name + " " + refusal) ? " " + refusal : "");
+            }
+            if (!Readme.refusals().contains(due.toString())) {
+                wrong++;
+                System.out.println("README.md does not tell of " + due);
+            }
         }
     }
 
